@@ -602,13 +602,11 @@ public final class TwinThreads {
             for (int at = 0; at < entries.length(); at++) {
                 int word = firstWord + at / ENTRY;
                 int column = at % ENTRY;
-                if (word < 0 || word >= WORD_COUNT) {
-                    return;
-                }
-                if (column < 6) {
+                int sort = word * 3 + column - 6;
+                if (column < 6 && word < WORD_COUNT) {
                     words[word] |= letterBits(entries.charAt(at), column);
-                } else {
-                    sorts[word * 3 + column - 6] = entries.charAt(at);
+                } else if (sort >= 0 && sort < sorts.length) {
+                    sorts[sort] = entries.charAt(at);
                 }
             }
         }

@@ -11,11 +11,12 @@ final class ModelTest {
     private final TwinThreads x = new TwinThreads();
     private final Model m = new Model();
     private final StringBuilder log = new StringBuilder();
-    private final int[] doneRuns;
+    private final int[] seen;
+    private boolean idles;
 
-    private ModelTest(long seed, int[] doneRuns) {
+    private ModelTest(long seed, int[] seen) {
         random = new Random(seed);
-        this.doneRuns = doneRuns;
+        this.seen = seen;
     }
 
     public static void main(String[] args) {
@@ -31,6 +32,10 @@ final class ModelTest {
         }
         for (int k = 1; k <= 6; k++) {
             System.out.println("alarms " + k + ": " + seen[k]);
+            // So few runs may miss one sort.
+            if (runs < 1000) {
+                continue;
+            }
             CHECK.due("whether alarms " + k + " came", seen[k] > 0, true);
         }
         System.out.println("done " + seen[8] + ", down " + seen[9]);
@@ -45,7 +50,16 @@ final class ModelTest {
         return random.nextInt(12) == 0 ? ODD[random.nextInt(ODD.length)] : upTo(most);
     }
 
+    /** An INSTRUCTION that mostly leaves all as it is: a flipped PLACE goes unnoticed up to ALARM 5. */
+    private String idleInstruction() {
+        String[] idle = {"set 0 0", "load 0 1 0", "out 0", "store 0 0 0", "zero 0 a", "less 0 1 a", "under 0 1 b", "jump c", "halt"};
+        return idle[upTo(idle.length - 1)];
+    }
+
     private String instruction() {
+        if (idles) {
+            return idleInstruction();
+        }
         int r = upTo(3);
         int s = upTo(3);
         int t = upTo(3);
@@ -92,7 +106,8 @@ final class ModelTest {
         for (int k = upTo(3); k > 0; k--) {
             s.append("data ").append(k * 3 + upTo(2)).append(' ').append(upTo(99999)).append(";\n");
         }
-        int size = upTo(random.nextInt(6) == 0 ? 41 : 25);
+        idles = random.nextInt(6) == 0;
+        int size = idles ? 2 + upTo(6) : upTo(random.nextInt(6) == 0 ? 41 : 25);
         int name = 0;
         for (int k = 0; k < size; k++) {
             while (name < NAMES.length && random.nextInt(4) == 0) {
@@ -153,10 +168,10 @@ final class ModelTest {
                 call();
             }
             for (int k = 0; k < 8; k++) {
-                doneRuns[Math.max(0, m.alarm(k, 0))]++;
+                seen[Math.max(0, m.alarm(k, 0))]++;
             }
-            doneRuns[8] += m.count(12);
-            doneRuns[9] += m.count(13);
+            seen[8] += m.count(12);
+            seen[9] += m.count(13);
         }
     }
 
@@ -165,7 +180,7 @@ final class ModelTest {
         int k = odd(8);
         switch (upTo(10)) {
             case 0: case 1:
-                int n = random.nextInt(3) == 0 ? odd(300) : odd(12);
+                int n = random.nextInt(3) == 0 && !idles ? odd(300) : odd(idles ? 3 : 12);
                 log.append("\ngo ").append(n);
                 CHECK.due("go(" + n + ")", x.go(n), m.go(n));
                 break;
@@ -223,6 +238,8 @@ final class ModelTest {
         } else if (random.nextInt(6) == 0) {
             log.append("\nloose");
             CHECK.due("loose()", x.loose(), m.loose());
+        } else if (idles && random.nextBoolean()) {
+            flip(4 + upTo(1), 0, upTo(2));
         } else {
             int sort = odd(12);
             int number = odd(3);
