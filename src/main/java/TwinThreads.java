@@ -846,7 +846,7 @@ public final class TwinThreads {
         private static final int EXPONENT = 0x7F800000;
         private static final int LOST = 0x7FC00000;
         private static final int SIGN = 0x80000000;
-        // Far more bits than a float has, so what is cut off below them only tells above from below a half.
+        // More bits than a float has: what is cut off below these and the float's own is never a half.
         private static final int GUARD = 30;
 
         static boolean isLost(int bits) {
@@ -899,8 +899,10 @@ public final class TwinThreads {
             int high = oneIsHigher ? one : other;
             int low = oneIsHigher ? other : one;
             int exponent = exponentOf(high) - GUARD;
+            int down = exponentOf(high) - exponentOf(low);
             long above = digitsOf(high) << GUARD;
-            long below = lowered(digitsOf(low) << GUARD, exponentOf(high) - exponentOf(low));
+            // Only digits that are far below a half of the lowest one of above are cut off here.
+            long below = down > 62 ? 0 : digitsOf(low) << GUARD >> down;
             long total = (high < 0 ? -above : above) + (low < 0 ? -below : below);
             if (total == 0) {
                 return one & other & SIGN;
@@ -917,18 +919,6 @@ public final class TwinThreads {
             long dividend = digitsOf(one) << GUARD;
             long rest = dividend % divisor == 0 ? 0 : 1;
             return nearest(0, dividend / divisor | rest, exponentOf(one) - exponentOf(other) - GUARD);
-        }
-
-        /** Digits moved down; a lowest 1 stays for all the ones that went. */
-        private static long lowered(long digits, int by) {
-            if (by <= 0) {
-                return digits;
-            }
-            if (by > 62) {
-                return digits == 0 ? 0 : 1;
-            }
-            long kept = digits >> by;
-            return kept << by == digits ? kept : kept | 1;
         }
 
         private static int exponentOf(int bits) {
@@ -1088,8 +1078,10 @@ public final class TwinThreads {
                     return registers[a & 7] == 0;
                 case LESS:
                     return registers[a & 7] < registers[b & 7];
-                default:
+                case UNDER:
                     return Floats.isUnder(floats[a & 3], floats[b & 3]);
+                default:
+                    return false;
             }
         }
 

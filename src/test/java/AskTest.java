@@ -8,6 +8,7 @@ final class AskTest {
 
     public static void main(String[] args) {
         shots();
+        shotsOfOneBit();
         shotsByHand();
         lengths();
         lengthsByHand();
@@ -20,6 +21,8 @@ final class AskTest {
         journal();
         chances();
         images();
+        fullImages();
+        alarmsInImages();
         nothingChanges();
         CHECK.end();
     }
@@ -54,6 +57,7 @@ final class AskTest {
         CHECK.due("which alarm", x.shot(1, 0, 3, 1), 3);
         CHECK.due("a bit of no use", x.shot(0, 7, 3, 0), 3);
         CHECK.due("which alarm", x.shot(0, 7, 3, 1), 4);
+        CHECK.due("nothing else has an alarm to tell", x.alarm(0, 0), -1);
         CHECK.due("what 2", x.shot(0, 7, 3, 2), -1);
         CHECK.due("what -1", x.shot(0, 7, 3, -1), -1);
         CHECK.due("no such sort", x.shot(13, 0, 0, 0), -1);
@@ -82,6 +86,29 @@ final class AskTest {
         z.flip(0, 5, 5);
         CHECK.due("a STUCK bit", z.shot(0, 6, 6, 0), -2);
         CHECK.due("matters but for those", z.matters(0), 256 - 32 - 1);
+    }
+
+    private static void shotsOfOneBit() {
+        for (int free = 0; free < 256; free += 51) {
+            for (int which = 0; which < 2; which++) {
+                TwinThreads x = Check.told("halt;");
+                for (int k = 0; k < 256; k++) {
+                    if (k != free) {
+                        x.stick(which, k / 32, k % 32, false);
+                    }
+                }
+                CHECK.due("one bit matters", x.matters(which), 1);
+                CHECK.due("one bit takes a turn", x.slowest(which), 1);
+                CHECK.due("all of the other matter", x.matters(1 - which), 256);
+                x.stick(which, free / 32, free % 32, false);
+                CHECK.due("none matters", x.matters(which), 0);
+                CHECK.due("none takes a turn", x.slowest(which), -2);
+            }
+        }
+        TwinThreads late = Check.told("span 1;set 0 1;set 0 0;halt;");
+        late.stick(0, 0, 0, true);
+        CHECK.due("an alarm behind a point is none of a shot", late.shot(0, 0, 5, 0), -2);
+        CHECK.due("it comes behind the point", late.go(3) * 100 + late.count(2) * 10 + late.shot(0, 0, 5, 0), 313);
     }
 
     private static void shotsByHand() {
@@ -150,13 +177,14 @@ final class AskTest {
         x.stick(0, 0, 0, false);
         x.flip(4, 0, 5);
         CHECK.due("from FRESH on", x.longBy(8), 7);
-        // 333 rounds of three TURNS by a span of 1 are 999; one more is beyond.
         CHECK.due("999", Check.told("set 0 166;set 1 1;at a;sub 0 0 1;zero 0 b;jump a;at b;halt;").longBy(1),
             turnsOf("span 1;set 0 166;set 1 1;at a;sub 0 0 1;zero 0 b;jump a;at b;halt;"));
         for (int n = 1; n < 120; n += 7) {
             String text = "set 0 " + n + ";set 1 1;at a;sub 0 0 1;zero 0 b;jump a;at b;halt;";
             CHECK.due("longBy(1) of " + n + " rounds", Check.told(text).longBy(1), 3 * (3 * n + 1) <= 999 ? 3 * (3 * n + 1) : -2);
         }
+        CHECK.due("longBy(8) at 999", Check.told(rounds(156, 1)).longBy(8), 999);
+        CHECK.due("longBy(10) at 1000", Check.told(rounds(158, 1)).longBy(10), -2);
         CHECK.due("longBy(1) at 999", Check.told(rounds(110, 2)).longBy(1), 999);
         CHECK.due("longBy(1) at 1002", Check.told(rounds(110, 3)).longBy(1), -2);
     }
@@ -225,6 +253,7 @@ final class AskTest {
         CHECK.due("need(3)", x.need(3), -1);
         String outs = "out 0;out 0;out 0;out 0;out 0;out 0;out 0;out 0;";
         CHECK.due("all eight", Check.told(outs + "halt;").need(2), 8);
+        CHECK.due("nine by a span of 40 are two points", Check.told("span 40;" + outs + "out 0;halt;").need(2), 5);
         CHECK.due("nine by a span of 8 are two points, as five and four are", Check.told(outs + "out 0;halt;").need(2), 5);
     }
 
@@ -245,6 +274,11 @@ final class AskTest {
                 CHECK.due("bestSpan(" + t + ") of " + head, x.bestSpan(t), best);
             }
         }
+        StringBuilder sets = new StringBuilder();
+        for (int k = 0; k < 40; k++) {
+            sets.append("set 0 1;");
+        }
+        CHECK.due("the greatest span", Check.told(sets.toString()).bestSpan(200), 40);
         CHECK.due("bestSpan(0)", new TwinThreads().bestSpan(0), -1);
         CHECK.due("bestSpan(201)", new TwinThreads().bestSpan(201), -1);
         CHECK.due("bestSpan(200)", new TwinThreads().bestSpan(200), 1);
@@ -334,6 +368,9 @@ final class AskTest {
         x.flip(4, 0, 0);
         CHECK.due("a register, a float, the place", x.strays(0), 3);
         CHECK.due("not of the trailer", x.strays(1), 0);
+        TwinThreads last = Check.told("data 31 5;load 1 0 31;halt;");
+        last.go(1);
+        CHECK.due("the last word of MEMORY", last.strays(0), 0);
         TwinThreads y = Check.told("data 1 5;set 0 1;load 1 0 0;store 0 0 0;load 2 0 0;out 2;halt;");
         y.go(3);
         y.flip(7, 0, 3);
@@ -510,6 +547,67 @@ final class AskTest {
         y.back();
         CHECK.due("not done", y.count(12), 0);
         CHECK.due("turns come again", y.go(300), 3);
+    }
+
+    /** What is full at the time of keep(), and overwritten ahead of back(). */
+    private static void fullImages() {
+        StringBuilder text = new StringBuilder("span 29;slack 8 9;queues 8 8 8;tries 9;set 1 1;");
+        for (int k = 0; k < 8; k++) {
+            text.append("data ").append(24 + k).append(' ').append(k + 50).append(';');
+        }
+        text.append("at top;");
+        for (int k = 0; k < 8; k++) {
+            text.append("load 2 7 ").append(31 - k).append(';');
+        }
+        text.append("out 3;store 3 3 0;out 3;store 3 7 31;out 3;store 3 3 2;out 3;store 3 3 3;");
+        for (char c = 'a'; c < 'i'; c++) {
+            text.append("zero ").append(c % 3).append(' ').append(c).append(";at ").append(c).append(';');
+        }
+        text.append("add 3 3 1;jump top;");
+        TwinThreads x = Check.told(text.toString());
+        // Images at many places of the loop, so that each of the queues is full in one of them.
+        for (int k = 0; k < 17; k++) {
+            x.go(k < 8 ? 140 : 7);
+            if (k % 3 == 0) {
+                x.flip(0, 6, k);
+            }
+            int turns = x.count(1);
+            CHECK.due("keep()", x.keep(), turns);
+            long sum = sumOf(x);
+            x.go(100);
+            for (int j = 0; j < 9; j++) {
+                x.flip(1, 6, 6);
+                x.go(70);
+            }
+            CHECK.due("back()", x.back(), turns);
+            CHECK.due("all is as in the image " + k, sumOf(x), sum);
+            if (x.count(13) == 1) {
+                break;
+            }
+        }
+        CHECK.due("alarms that came", x.count(3) > 1, true);
+        CHECK.due("outputs that came", x.count(11) > 41, true);
+    }
+
+    /** ALARMS of several sorts are kept, then all eight rows are overwritten by others. */
+    private static void alarmsInImages() {
+        TwinThreads x = Check.told("tries 9;load 1 2 0;zero 3 a;at a;out 0;halt;");
+        int[][] flips = {{1, 1, 2, 0}, {3, 1, 3, 0}, {5, 1, 0, 0}, {6, 0, 7, 0}, {6, 12, 0, 3}, {1, 1, 2, 1}, {6, 3, 0, 0}, {3, 1, 3, 1}};
+        int[] sorts = {1, 2, 3, 4, 6, 1, 4, 2};
+        for (int k = 0; k < 8; k++) {
+            x.go(flips[k][0]);
+            CHECK.due("flip", x.flip(flips[k][1], flips[k][2], flips[k][3]), true);
+            x.go(1);
+            CHECK.due("alarms", x.count(3), k + 1);
+            CHECK.due("alarm(0, 0)", x.alarm(0, 0), sorts[k]);
+            x.keep();
+            long sum = sumOf(x);
+            x.stick(0, 7, 7, true);
+            x.go(300);
+            CHECK.due("down behind nine", x.count(3) * 10 + x.count(13), 91);
+            x.back();
+            CHECK.due("all is as in the image", sumOf(x), sum);
+        }
     }
 
     private static long sumOf(TwinThreads x) {

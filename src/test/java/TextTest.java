@@ -12,6 +12,7 @@ final class TextTest {
         tooManyInstructions();
         firstFault();
         names();
+        nothingOfTextsAhead();
         whatStays();
         CHECK.end();
     }
@@ -229,6 +230,34 @@ final class TextTest {
         TwinThreads full = new TwinThreads();
         CHECK.due("many names", Check.tell(full, many.toString()), lines);
         CHECK.due("the last of many names", full.named(Check.letters("dq")), 0);
+    }
+
+    private static void nothingOfTextsAhead() {
+        StringBuilder full = new StringBuilder("span 1;slack 8 9;queues 1 1 1;tries 1;seed 5;");
+        for (int k = 0; k < 32; k++) {
+            full.append("data ").append(k).append(" 7;");
+        }
+        for (int k = 0; k < 30; k++) {
+            full.append("out 0;");
+        }
+        TwinThreads x = Check.told(full.toString());
+        CHECK.due("halt", Check.tell(x, "halt;"), 1);
+        CHECK.due("an empty text", x.text(0), 0);
+        for (int k = 0; k < 64; k++) {
+            CHECK.due("memory(" + k + ")", x.memory(k), 0);
+        }
+        CHECK.due("count(0)", x.count(0), 0);
+        CHECK.due("thread(0, 2)", Check.thread(x, 0, 2), 1);
+        CHECK.due("plain(9, 2)", x.plain(9, 2), 0);
+        for (int bit = 0; bit < 6; bit++) {
+            x.flip(4, 0, bit);
+            CHECK.due("thread(0, 2) at " + Check.thread(x, 0, 0), Check.thread(x, 0, 2), 1);
+        }
+        CHECK.due("a text by what isn't told", Check.tell(x, "slack 3 4;out 0;out 0;out 0;out 0;out 0;out 0;"), 7);
+        CHECK.due("the first point", x.go(9) * 100 + x.count(2) * 10 + x.count(11), 914);
+        CHECK.due("tries", x.stick(0, 0, 0, true), true);
+        x.go(300);
+        CHECK.due("three tries", x.count(3), 3);
     }
 
     private static void whatStays() {

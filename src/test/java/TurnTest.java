@@ -8,6 +8,8 @@ final class TurnTest {
         slack();
         high();
         fullQueues();
+        defaults();
+        eights();
         emptyQueues();
         spanPasses();
         forwarding();
@@ -168,6 +170,103 @@ final class TurnTest {
         CHECK.due("full queues don't matter to a set", Check.thread(others, 0, 3), 0);
     }
 
+    private static void defaults() {
+        TwinThreads high = Check.told("set 0 1;set 0 2;set 0 3;set 0 4;set 0 5;set 0 6;set 0 7;set 0 8;halt;");
+        turns(high, 1, 0, 1, 0);
+        flip(high, 5, 0, 5);
+        turns(high, 1, 1, 1, 1, 14);
+        String[] lines = {"load 0 1 0;", "zero 1 a;at a;", "out 0;"};
+        String[] later = {"load 0 1 0;", "zero 1 %c;at %c;", "out 0;"};
+        for (int sort = 0; sort < 3; sort++) {
+            StringBuilder text = new StringBuilder("slack 8 9;").append(lines[sort]);
+            for (char c = 'b'; c < 'g'; c++) {
+                text.append(String.format(later[sort], c, c));
+            }
+            TwinThreads x = Check.told(text + "halt;");
+            turns(x, 1, 1, 1, 1);
+            CHECK.due("four fill the queue " + sort, Check.thread(x, 0, 3), 4);
+            for (int other = 0; other < 3; other++) {
+                StringBuilder sizes = new StringBuilder("queues");
+                for (int k = 0; k < 3; k++) {
+                    sizes.append(k == other ? " 2" : " 5");
+                }
+                TwinThreads y = Check.told(sizes + ";" + text + "halt;");
+                int room = other == sort ? 2 : 5;
+                go(y, room);
+                CHECK.due("queue " + sort + " is full with " + room, Check.thread(y, 0, 3), 4);
+                CHECK.due("so many", y.count(7 + sort), room);
+            }
+        }
+        TwinThreads tries = Check.told("out 0;halt;");
+        tries.stick(0, 0, 0, true);
+        CHECK.due("three tries", tries.go(300), 6);
+        CHECK.due("a span of 8", Check.told("at a;jump a;").go(17), 17);
+        CHECK.due("DRAWS by a seed of 0", tries.chance(-1, 5, 2), tries.chance(0, 5, 2));
+    }
+
+    /** Queues that are full with eight, and have gone round. */
+    private static void eights() {
+        StringBuilder text = new StringBuilder("span 40;slack 8 9;queues 8 8 8;set 0 1;");
+        for (int k = 0; k < 8; k++) {
+            text.append("store 0 7 ").append(24 + k).append(";add 0 0 0;");
+        }
+        TwinThreads x = Check.told(text + "load 1 7 31;load 2 7 24;out 0;halt;");
+        for (int k = 0; x.count(9) < 8; k++) {
+            x.go(1);
+            CHECK.due("eight come", k < 99, true);
+        }
+        for (int k = 0; k < 8; k++) {
+            CHECK.due("HELD's address", x.queued(2, k, 0), 24 + k);
+            CHECK.due("HELD's word", x.queued(2, k, 1), 1 << k);
+        }
+        CHECK.due("none behind", x.queued(2, 8, 0), 0);
+        flip(x, 9, 7, 5);
+        CHECK.due("the eighth is flipped", x.queued(2, 7, 0), 63);
+        flip(x, 9, 7, 5);
+        go(x, 1);
+        CHECK.due("next to a full one", x.next() >= 0, true);
+        for (int k = 0; x.count(2) == 0 && x.next() != 2; k++) {
+            x.go(1);
+            CHECK.due("a point comes", k < 99, true);
+        }
+        CHECK.due("the last of eight", x.register(0, 1), 128);
+        flip(x, 10, 7, 3);
+        CHECK.due("the eighth isn't the same", x.next(), 16);
+        flip(x, 12, 7, 3);
+        CHECK.due("it is the same", x.next(), 2);
+        go(x, 1);
+        for (int k = 0; k < 8; k++) {
+            CHECK.due("memory", x.memory(24 + k), k == 7 ? 136 : 1 << k);
+        }
+        rounds("load 0 1 %d;", 0);
+        rounds("zero 1 %c;at %c;", 1);
+    }
+
+    private static void rounds(String line, int sort) {
+        StringBuilder text = new StringBuilder("data 0 100;data 5 105;data 9 109;data 13 113;span 40;slack 8 9;queues 8 8 8;");
+        for (int k = 0; k < 20; k++) {
+            text.append(sort == 0 ? String.format(line, k) : String.format(line, 'a' + k, 'a' + k));
+        }
+        TwinThreads x = Check.told(text + "halt;");
+        for (int turn = 0; turn < 28; turn++) {
+            go(x, 1);
+            int n = x.count(7 + sort);
+            int first = Check.thread(x, 1, 1);
+            CHECK.due("so many are in the queue", n, x.count(5));
+            for (int k = 0; k < n; k++) {
+                CHECK.due("the queue's k-th", x.queued(sort, k, 0), sort == 0 ? first + k : 1);
+                if (sort == 0) {
+                    CHECK.due("its word", x.queued(0, k, 1), (first + k) % 4 == 1 && first + k > 1 && first + k < 14
+                        ? 100 + first + k : first + k == 0 ? 100 : 0);
+                }
+                flip(x, sort == 0 ? 6 : 8, k, 0);
+                CHECK.due("the queue's k-th, flipped", x.queued(sort, k, 0), sort == 0 ? first + k ^ 1 : 0);
+                flip(x, sort == 0 ? 6 : 8, k, 0);
+            }
+            CHECK.due("none behind", x.queued(sort, n, 0), 0);
+        }
+    }
+
     private static void emptyQueues() {
         String[] texts = {"load 1 0 0;", "zero 1 a;at a;", "less 0 1 a;at a;", "under 0 1 a;at a;", "store 1 0 0;", "out 1;"};
         for (String text : texts) {
@@ -251,6 +350,12 @@ final class TurnTest {
         }
         CHECK.due("real(0, 2)", x.real(0, 2), Float.floatToIntBits(-99996f - 99996f));
         CHECK.due("real(1, 3)", x.real(1, 3), Float.floatToIntBits(-99996f * -99996f));
+        TwinThreads odd = Check.told("set 1 7;set 3 5;set 7 3;add 0 1 3;sub 2 3 7;mul 4 1 3;xor 5 7 1;mul 6 7 1;halt;");
+        finish(odd);
+        int[] odds = {12, 7, 2, 5, 35, 4, 21, 3};
+        for (int k = 0; k < 8; k++) {
+            CHECK.due("register(1, " + k + ")", odd.register(1, k), odds[k]);
+        }
         TwinThreads y = Check.told("add 0 0 0;mul 1 1 1;halt;");
         flip(y, 0, 0, 31);
         flip(y, 0, 1, 16);
@@ -516,6 +621,11 @@ final class TurnTest {
         CHECK.due("register", x.plainOf(5, 0, 2), 5);
         CHECK.due("float", x.plainOf(6, 1, 1), Float.floatToIntBits(5f));
         CHECK.due("nothing is changed", x.memory(4), 6);
+        TwinThreads last = Check.told("data 31 8;set 7 6;real 3 7;halt;");
+        CHECK.due("memory(31)", last.memory(31), 8);
+        CHECK.due("word 31", last.plainOf(9, 2, 31), 8);
+        CHECK.due("register 7", last.plainOf(9, 0, 7), 6);
+        CHECK.due("float 3", last.plainOf(9, 1, 3), Float.floatToIntBits(6f));
         TwinThreads many = Check.told("set 0 7;at a;out 0;out 0;out 0;out 0;out 0;out 0;out 0;out 0;out 0;jump a;");
         CHECK.due("plain(999, 3)", many.plain(999, 3), 899);
         CHECK.due("the last output", many.plainOf(999, 3, 898), 7);
