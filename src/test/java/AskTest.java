@@ -519,17 +519,19 @@ final class AskTest {
         x.stick(0, 7, 7, true);
         x.flip(1, 6, 6);
         CHECK.due("keep()", x.keep(), 5);
-        long sum = sumOf(x);
+        TwinThreads same = Check.told("slack 2 4;" + BODY);
+        same.go(5);
+        same.stick(0, 7, 7, true);
+        same.flip(1, 6, 6);
         x.go(9);
         x.loose();
         x.flip(2, 2, 2);
         x.go(100);
-        CHECK.due("changed", sumOf(x) != sum, true);
+        CHECK.due("changed", x.count(1) > 50, true);
         CHECK.due("back()", x.back(), 5);
-        CHECK.due("all is as in the image", sumOf(x), sum);
         x.go(20);
         CHECK.due("it stays", x.back(), 5);
-        CHECK.due("all is as in the image", sumOf(x), sum);
+        CHECK.due("all is as in the image", sumOf(x), sumOf(same));
         x.go(2);
         CHECK.due("keep() in place of it", x.keep(), 7);
         x.go(2);
@@ -564,83 +566,84 @@ final class AskTest {
             text.append("zero ").append(c % 3).append(' ').append(c).append(";at ").append(c).append(';');
         }
         text.append("add 3 3 1;jump top;");
-        TwinThreads x = Check.told(text.toString());
+        TwinThreads last = loopedUpTo(text.toString(), 0);
         // Images at many places of the loop, so that each of the queues is full in one of them.
-        for (int k = 0; k < 17; k++) {
-            x.go(k < 8 ? 140 : 7);
-            if (k % 3 == 0) {
-                x.flip(0, 6, k);
-            }
+        for (int k = 0; k < 17 && last.count(13) == 0; k++) {
+            TwinThreads x = loopedUpTo(text.toString(), k);
+            last = loopedUpTo(text.toString(), k);
             int turns = x.count(1);
             CHECK.due("keep()", x.keep(), turns);
-            long sum = sumOf(x);
             x.go(100);
             for (int j = 0; j < 9; j++) {
                 x.flip(1, 6, 6);
                 x.go(70);
             }
             CHECK.due("back()", x.back(), turns);
-            CHECK.due("all is as in the image " + k, sumOf(x), sum);
-            if (x.count(13) == 1) {
-                break;
+            CHECK.due("all is as in the image " + k, sumOf(x), sumOf(last));
+        }
+        CHECK.due("alarms that came", last.count(3) > 1, true);
+        CHECK.due("outputs that came", last.count(11) > 41, true);
+    }
+
+    private static TwinThreads loopedUpTo(String text, int images) {
+        TwinThreads x = Check.told(text);
+        for (int k = 0; k <= images; k++) {
+            x.go(k < 8 ? 140 : 7);
+            if (k % 3 == 0) {
+                x.flip(0, 6, k);
             }
         }
-        CHECK.due("alarms that came", x.count(3) > 1, true);
-        CHECK.due("outputs that came", x.count(11) > 41, true);
+        return x;
+    }
+
+    // TURNS, then the sort, number, bit of a FLIP that brings an ALARM with the next one, and which.
+    private static final int[][] FLIPS = {{1, 1, 2, 0, 1}, {3, 1, 3, 0, 2}, {5, 1, 0, 0, 3}, {6, 0, 7, 0, 4}, {6, 12, 0, 3, 6},
+        {1, 1, 2, 1, 1}, {6, 3, 0, 0, 4}, {3, 1, 3, 1, 2}};
+
+    private static TwinThreads alarmed(int times) {
+        TwinThreads x = Check.told("tries 9;load 1 2 0;zero 3 a;at a;out 0;halt;");
+        for (int k = 0; k < times; k++) {
+            x.go(FLIPS[k][0]);
+            CHECK.due("flip", x.flip(FLIPS[k][1], FLIPS[k][2], FLIPS[k][3]), true);
+            x.go(1);
+            CHECK.due("alarms", x.count(3), k + 1);
+            CHECK.due("alarm(0, 0)", x.alarm(0, 0), FLIPS[k][4]);
+        }
+        return x;
     }
 
     /** ALARMS of several sorts are kept, then all eight rows are overwritten by others. */
     private static void alarmsInImages() {
-        TwinThreads x = Check.told("tries 9;load 1 2 0;zero 3 a;at a;out 0;halt;");
-        int[][] flips = {{1, 1, 2, 0}, {3, 1, 3, 0}, {5, 1, 0, 0}, {6, 0, 7, 0}, {6, 12, 0, 3}, {1, 1, 2, 1}, {6, 3, 0, 0}, {3, 1, 3, 1}};
-        int[] sorts = {1, 2, 3, 4, 6, 1, 4, 2};
-        for (int k = 0; k < 8; k++) {
-            x.go(flips[k][0]);
-            CHECK.due("flip", x.flip(flips[k][1], flips[k][2], flips[k][3]), true);
-            x.go(1);
-            CHECK.due("alarms", x.count(3), k + 1);
-            CHECK.due("alarm(0, 0)", x.alarm(0, 0), sorts[k]);
+        for (int times = 1; times <= FLIPS.length; times++) {
+            TwinThreads x = alarmed(times);
             x.keep();
-            long sum = sumOf(x);
             x.stick(0, 7, 7, true);
             x.go(300);
             CHECK.due("down behind nine", x.count(3) * 10 + x.count(13), 91);
             x.back();
-            CHECK.due("all is as in the image", sumOf(x), sum);
+            CHECK.due("all is as in the image", sumOf(x), sumOf(alarmed(times)));
         }
     }
 
+    /** Of all that is seen by some 270 calls. */
     private static long sumOf(TwinThreads x) {
         long sum = 0;
-        for (int what = 1; what < 18; what++) {
-            sum = sum * 31 + x.count(what);
+        for (int part : Edge.seen(x)) {
+            sum = sum * 31 + part;
         }
-        for (int k = 0; k < 40; k++) {
-            for (int which = 0; which < 2; which++) {
-                sum = sum * 31 + x.register(which, k);
-                sum = sum * 31 + x.real(which, k);
-            }
-            sum = sum * 31 + x.memory(k);
-            sum = sum * 31 + x.output(k);
-            for (int what = 0; what < 5; what++) {
-                sum = sum * 31 + x.alarm(k, what) + 7 * x.left(k, what);
-                for (int sort = 0; sort < 3; sort++) {
-                    sum = sum * 31 + x.queued(sort, k, what);
-                }
-            }
-        }
-        for (int what = 0; what < 4; what++) {
-            sum = sum * 31 + Check.thread(x, 0, what) * 3L + Check.thread(x, 1, what);
-        }
-        return sum * 31 + x.mean() + x.takes() + x.compared() + x.strays(0) * 3L + x.strays(1) + x.next();
+        return sum;
+    }
+
+    private static TwinThreads stuckBehind11(String head) {
+        TwinThreads x = Check.told(head + BODY);
+        x.go(11);
+        x.stick(1, 5, 5, true);
+        return x;
     }
 
     private static void nothingChanges() {
         for (String head : HEADS) {
-            TwinThreads x = Check.told(head + BODY);
-            x.go(11);
-            x.stick(1, 5, 5, true);
-            long sum = sumOf(x);
+            TwinThreads x = stuckBehind11(head);
             x.shot(0, 0, 0, 0);
             x.matters(1);
             x.longBy(3);
@@ -652,7 +655,7 @@ final class AskTest {
             x.chance(7, 5, 2);
             x.plain(99, 0);
             x.plainOf(99, 3, 0);
-            CHECK.due("nothing is changed by what is asked", sumOf(x), sum);
+            CHECK.due("nothing is changed by what is asked", sumOf(x), sumOf(stuckBehind11(head)));
             CHECK.due("no image is made by what is asked", x.back(), -1);
         }
     }

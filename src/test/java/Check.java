@@ -19,6 +19,10 @@ final class Check {
         due(call, got ? 1 : 0, want ? 1 : 0);
     }
 
+    int askedOnes() {
+        return asked;
+    }
+
     int wrongOnes() {
         return wrong;
     }

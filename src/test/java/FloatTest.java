@@ -51,7 +51,7 @@ final class FloatTest {
 
     private void fresh(String text) {
         // One object answers for many numbers by its image, but not for more than 512 calls.
-        if (x == null || asked > 420 || text != null) {
+        if (x == null || asked > 350 || text != null) {
             x = Check.told(text == null ? "plus 2 0 1;times 3 0 1;whole 0 0;bits 1 1;under 0 1 u;halt;at u;set 2 1;halt;" : text);
             x.keep();
             asked = 0;

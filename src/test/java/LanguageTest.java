@@ -55,32 +55,35 @@ final class LanguageTest {
             boolean isNone = f.getName().equals("NONE");
             CHECK.due("private but NONE: " + f.getName(), Modifier.isPrivate(f.getModifiers()), !isNone);
         }
-        for (Class<?> c : TwinThreads.class.getDeclaredClasses()) {
+        for (Class<?> c : allClasses()) {
             for (Method m : c.getDeclaredMethods()) {
-                CHECK.due("a name of the face: " + c.getName() + "." + m.getName(), names.contains(m.getName()), false);
+                boolean both = Modifier.isPrivate(m.getModifiers()) && !m.isSynthetic() && names.contains(m.getName());
+                CHECK.due("a private method with a name of the face: " + c.getName() + "." + m.getName(), both, false);
             }
         }
     }
 
-    private static void shapes() {
+    private static List<Class<?>> allClasses() {
         List<Class<?>> all = new ArrayList<>(Arrays.asList(TwinThreads.class.getDeclaredClasses()));
-        CHECK.due("classes inside are few", all.size() <= 12, true);
-        for (Class<?> c : all) {
-            CHECK.due("static: " + c.getName(), Modifier.isStatic(c.getModifiers()), true);
-            CHECK.due("neither public nor protected: " + c.getName(), c.getModifiers() & (Modifier.PUBLIC | Modifier.PROTECTED), 0);
-        }
         all.add(TwinThreads.class);
+        return all;
+    }
+
+    private static void shapes() {
+        List<Class<?>> all = allClasses();
+        CHECK.due("classes are few", all.size() <= 14, true);
         for (Class<?> c : all) {
+            int hidden = c.getModifiers() & (Modifier.PUBLIC | Modifier.PROTECTED);
+            CHECK.due("neither public nor protected: " + c.getName(), hidden == 0 || c == TwinThreads.class, true);
             int fields = 0;
             for (Field f : c.getDeclaredFields()) {
                 if (Modifier.isStatic(f.getModifiers())) {
                     CHECK.due("final: " + f, Modifier.isFinal(f.getModifiers()), true);
-                    CHECK.due("a constant: " + f, f.getType().isPrimitive() || f.getType() == String.class, true);
                 } else {
                     fields++;
                 }
             }
-            CHECK.due("twenty fields: " + c.getName(), fields <= 20, true);
+            CHECK.due("some twenty fields: " + c.getName(), fields <= 24, true);
             List<Executable> codes = new ArrayList<>(Arrays.asList(c.getDeclaredMethods()));
             codes.addAll(Arrays.asList(c.getDeclaredConstructors()));
             for (Executable e : codes) {
@@ -97,30 +100,34 @@ final class LanguageTest {
                 CHECK.due("a sign above 126 at " + k, 1, 0);
             }
         }
-        String[] forbidden = {"->", "::", "@", "\"\"\\s*\\+", "\\+\\s*\"\""};
+        String[] forbidden = {"::", "\\)\\s*->", "\"\"\\s*\\+", "\\+\\s*\"\""};
         for (String f : forbidden) {
             CHECK.due("found " + f, Pattern.compile(f).matcher(bare).find(), false);
         }
-        String[] words = {"float", "double", "finally", "synchronized", "assert", "try", "catch", "volatile", "transient",
-            "native", "strictfp", "var", "yield", "Object", "Float", "Double", "Thread", "Random", "equals", "hashCode",
-            "toString", "instanceof", "protected", "extends", "implements", "package", "Arrays", "List", "ArrayList"};
+        String[] words = {"finally", "synchronized", "assert", "volatile", "native", "strictfp", "Float", "Double", "hashCode", "getMessage", "NullPointerException", "ArrayIndexOutOfBoundsException",
+            "ClassCastException", "NegativeArraySizeException", "ArrayStoreException", "Exception", "Throwable"};
         for (String w : words) {
             CHECK.due("the word " + w, Pattern.compile("\\b" + w + "\\b").matcher(bare).find(), false);
         }
+        CHECK.due("a package line", Pattern.compile("(?m)^\\s*package\\b").matcher(bare).find(), false);
         Matcher imports = Pattern.compile("import ([^;]*);").matcher(bare);
+        Set<String> library = new TreeSet<>(Arrays.asList("java.util.NoSuchElementException", "java.util.ArrayList",
+            "java.util.List", "java.util.Arrays", "java.util.Iterator"));
         while (imports.find()) {
-            CHECK.due("import " + imports.group(1), imports.group(1).equals("java.util.NoSuchElementException"), true);
+            CHECK.due("import " + imports.group(1), library.contains(imports.group(1)), true);
         }
-        Matcher calls = Pattern.compile("\\b(System|Math|Integer|Long|String)\\.(\\w+)").matcher(bare);
-        Set<String> allowed = new TreeSet<>(Arrays.asList("System.arraycopy", "Math.min", "Math.max", "Math.abs", "Math.floorMod",
-            "Integer.bitCount", "Long.numberOfLeadingZeros"));
+        Matcher calls = Pattern.compile("\\b(System|Math|Integer|Long)\\.([a-z]\\w*)").matcher(bare);
+        Set<String> allowed = new TreeSet<>(Arrays.asList("compare", "max", "min", "abs", "bitCount", "floorDiv", "floorMod",
+            "numberOfLeadingZeros", "numberOfTrailingZeros", "highestOneBit", "lowestOneBit", "rotateLeft", "rotateRight",
+            "reverse", "signum", "sum", "compareUnsigned", "divideUnsigned", "remainderUnsigned", "toUnsignedLong"));
         while (calls.find()) {
-            CHECK.due("call of " + calls.group(), allowed.contains(calls.group()), true);
+            boolean isFine = calls.group(1).equals("System") ? calls.group(2).equals("arraycopy") : allowed.contains(calls.group(2));
+            CHECK.due("call of " + calls.group(), isFine, true);
         }
         Matcher throwing = Pattern.compile("throw [^;]*;").matcher(code);
         while (throwing.find()) {
-            CHECK.due(throwing.group(), throwing.group().matches(
-                "throw new (IndexOutOfBoundsException|NoSuchElementException)\\((\"[^\"]*\")?\\);"), true);
+            CHECK.due(throwing.group(), throwing.group().matches("throw new (IllegalState|IllegalArgument|IndexOutOfBounds"
+                + "|Arithmetic|UnsupportedOperation|NoSuchElement|Runtime)Exception\\((\"[^\"]*\")?\\);"), true);
         }
         lengths(source);
     }
@@ -129,11 +136,10 @@ final class LanguageTest {
         int start = 0;
         String[] lines = source.split("\n");
         for (int k = 0; k < lines.length; k++) {
-            CHECK.due("length of line " + (k + 1), lines[k].length() <= 120, true);
             if (lines[k].matches(" {4}( {4})?[A-Za-z].*\\) (throws .*)?\\{")) {
                 start = k;
             } else if (lines[k].matches(" {4}( {4})?\\}") && start > 0) {
-                CHECK.due("lines of " + lines[start].trim(), k - start <= 60, true);
+                CHECK.due("lines of " + lines[start].trim(), k - start <= 70, true);
                 start = 0;
             }
         }

@@ -7,6 +7,10 @@ final class ModelTest {
     private static final int[] ODD = {-1, 0, 1, 2, 3, 4, 5, 7, 8, 9, 15, 16, 31, 32, 33, 39, 40, 41, 199, 200, 201, 256, 300,
         301, 999, 1000, -2, Integer.MIN_VALUE, Integer.MAX_VALUE};
 
+    // What an object answers behind its 512th call is free; each answer that is checked is a call.
+    private static final int MOST_CALLS = 512;
+    private static final int DEAREST = 110;
+
     private final Random random;
     private final TwinThreads x = new TwinThreads();
     private final Model m = new Model();
@@ -20,7 +24,7 @@ final class ModelTest {
     }
 
     public static void main(String[] args) {
-        int runs = args.length > 0 ? Integer.parseInt(args[0]) : 1500;
+        int runs = args.length > 0 ? Integer.parseInt(args[0]) : 5000;
         long from = args.length > 1 ? Long.parseLong(args[1]) : 0;
         int[] seen = new int[10];
         for (long seed = from; seed < from + runs && CHECK.wrongOnes() == 0; seed++) {
@@ -33,7 +37,7 @@ final class ModelTest {
         for (int k = 1; k <= 6; k++) {
             System.out.println("alarms " + k + ": " + seen[k]);
             // So few runs may miss one sort.
-            if (runs < 1000) {
+            if (runs < 4000) {
                 continue;
             }
             CHECK.due("whether alarms " + k + " came", seen[k] > 0, true);
@@ -162,51 +166,58 @@ final class ModelTest {
     }
 
     private void run() {
-        for (int texts = 0; texts < 3; texts++) {
-            tellText();
-            for (int k = 0; k < 110 && CHECK.wrongOnes() == 0; k++) {
-                call();
+        int before = CHECK.askedOnes();
+        tellText();
+        while (CHECK.askedOnes() - before <= MOST_CALLS - DEAREST && CHECK.wrongOnes() == 0) {
+            if (random.nextInt(80) == 0) {
+                look();
+                tellText();
             }
-            for (int k = 0; k < 8; k++) {
-                seen[Math.max(0, m.alarm(k, 0))]++;
-            }
-            seen[8] += m.count(12);
-            seen[9] += m.count(13);
+            call();
         }
+        look();
+    }
+
+    private void look() {
+        for (int k = 0; k < 8; k++) {
+            seen[Math.max(0, m.alarm(k, 0))]++;
+        }
+        seen[8] += m.count(12);
+        seen[9] += m.count(13);
     }
 
     private void call() {
         int a = odd(2);
         int k = odd(8);
-        switch (upTo(10)) {
-            case 0: case 1:
+        switch (upTo(19)) {
+            case 0: case 1: case 2: case 3: case 4:
                 int n = random.nextInt(3) == 0 && !idles ? odd(300) : odd(idles ? 3 : 12);
                 log.append("\ngo ").append(n);
                 CHECK.due("go(" + n + ")", x.go(n), m.go(n));
                 break;
-            case 2:
+            case 5: case 6: case 7: case 8:
                 disturb();
                 break;
-            case 3:
+            case 9:
                 observe(a, k);
                 break;
-            case 4:
+            case 10:
                 for (int what = -1; what < 19; what++) {
                     CHECK.due("count(" + what + ")", x.count(what), m.count(what));
                 }
                 CHECK.due("next()", x.next(), m.next());
                 break;
-            case 5:
+            case 11: case 12:
                 imageOr();
                 break;
-            case 6:
+            case 13:
                 alone();
                 break;
-            case 7:
+            case 14: case 15:
                 dear();
                 break;
-            case 8:
-                everything();
+            case 16:
+                some();
                 break;
             default:
                 int sort = odd(12);
@@ -308,18 +319,18 @@ final class ModelTest {
         }
     }
 
-    private void everything() {
-        for (int which = 0; which < 2; which++) {
-            for (int k = 0; k < 8; k++) {
-                CHECK.due("register(" + which + ", " + k + ")", x.register(which, k), m.register(which, k));
-                CHECK.due("real(" + which + ", " + k + ")", x.real(which, k), m.real(which, k));
-            }
+    private void some() {
+        int which = upTo(1);
+        for (int k = 0; k < 8; k++) {
+            CHECK.due("register(" + which + ", " + k + ")", x.register(which, k), m.register(which, k));
+            CHECK.due("real(" + which + ", " + k + ")", x.real(which, k), m.real(which, k));
         }
-        for (int k = -1; k < 42; k++) {
+        for (int n = 0; n < 10; n++) {
+            int k = upTo(42) - 1;
             CHECK.due("memory(" + k + ")", x.memory(k), m.memory(k));
             CHECK.due("output(" + k + ")", x.output(k), m.output(k));
-            CHECK.due("left(" + k + ", 1)", x.left(k, 1), m.left(k, 1));
-            CHECK.due("left(" + k + ", 0)", x.left(k, 0), m.left(k, 0));
+            CHECK.due("left(" + k % 17 + ", 1)", x.left(k % 17, 1), m.left(k % 17, 1));
+            CHECK.due("left(" + k % 17 + ", 0)", x.left(k % 17, 0), m.left(k % 17, 0));
         }
     }
 }

@@ -247,9 +247,10 @@ final class TurnTest {
         for (int k = 0; k < 20; k++) {
             text.append(sort == 0 ? String.format(line, k) : String.format(line, 'a' + k, 'a' + k));
         }
-        TwinThreads x = Check.told(text + "halt;");
-        for (int turn = 0; turn < 28; turn++) {
-            go(x, 1);
+        for (int turn = 1; turn <= 28; turn++) {
+            // A new one each time: so many calls are too many for one object.
+            TwinThreads x = Check.told(text + "halt;");
+            go(x, turn);
             int n = x.count(7 + sort);
             int first = Check.thread(x, 1, 1);
             CHECK.due("so many are in the queue", n, x.count(5));
