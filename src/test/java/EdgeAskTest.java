@@ -439,11 +439,10 @@ final class EdgeAskTest extends Edge {
         due("never", x.need(0) + x.need(1) + x.need(2), -6);
         due("999", told(rounds(156, 1)).need(1), 1);
         due("1000", told("span 10;" + rounds(158, 1)).need(1), -2);
-        StringBuilder outs = new StringBuilder("span 40;queues 1 1 1;set 0 92;set 1 1;at a;sub 0 0 1;out 1;out 1;zero 0 b;jump a;at b;");
-        TwinThreads some = told(outs.toString());
-        int by8 = longAs(outs.toString().replace("1 1 1;s", "1 1 8;s"));
-        due("by 8 it is in 999, by 1 it isn't", by8 > 0 && longAs(outs.toString()) == -2, true);
-        due("what is -2 isn't no more", some.need(2) > 1, true);
+        String outs = "set 0 92;set 1 1;at a;sub 0 0 1;out 1;out 1;zero 0 b;jump a;at b;";
+        due("by 8 it is in 999", longAs("span 40;queues 1 1 8;" + outs) > 0, true);
+        due("by 1 it isn't", longAs("span 40;queues 1 1 1;" + outs), -2);
+        due("what isn't in 999 is more", told("span 40;queues 1 1 1;" + outs).need(2) > 1, true);
     }
 
     /** Promise 23: "NONE: no such ones" (ahead of -2) */
@@ -833,6 +832,31 @@ final class EdgeAskTest extends Edge {
             sum += x.count(5);
             due("mean() behind " + (k + 1), x.mean(), Float.floatToIntBits((float) sum / (float) (k + 1)));
         }
+    }
+
+    /** Promise 29, Terms 3: "all AHEAD behind each TURN, added" (of more TURNS than any other run has) */
+    static void promise29_manyTurns() {
+        TwinThreads x = told("slack 8 9;span 40;at a;set 0 1;jump a;");
+        long sum = 0;
+        int leader = 0;
+        int trailer = 0;
+        for (int turn = 1; turn <= 150000; turn++) {
+            int ahead = leader - trailer;
+            if (ahead >= 8 || ahead > 0 && leader == 40) {
+                trailer++;
+            } else if (leader < 40) {
+                leader++;
+            } else {
+                leader = 0;
+                trailer = 0;
+            }
+            sum += leader - trailer;
+            if (turn % 300 == 0) {
+                x.go(300);
+            }
+        }
+        due("TURNS", x.count(1), 150000);
+        due("mean()", x.mean(), Float.floatToIntBits((float) sum / (float) 150000));
     }
 
     /** Promise 30, Terms 3: "JOURNAL: what left, the latest 16" (15, 16, 17 of them) */

@@ -409,7 +409,7 @@ final class EdgeTextTest extends Edge {
     /** Promise 3, Terms 1: "N: digits" */
     static void promise03_digits() {
         fine("set 0 0000007;", 1);
-        fine("set 0000 1234567890;".replace("1234567890", "12345"), 1);
+        fine("set 0000 12345;", 1);
         fine("set 7 " + times(40, "0") + "99999;", 1);
         fault("set 0 -1;", 1, 6);
         fault("set 0 +1;", 1, 6);
@@ -419,7 +419,7 @@ final class EdgeTextTest extends Edge {
         fault("set 0 /;", 1, 6);
         fault("set 0 :;", 1, 6);
         fault("set 0 1 2;", 1, 8);
-        TwinThreads x = fine("set 1 0123456789;".replace("0123456789", "01234") + "set 2 56789;halt;", 3);
+        TwinThreads x = fine("set 1 01234;set 2 56789;halt;", 3);
         due("01234", x.plainOf(2, 0, 1), 1234);
         due("56789", x.plainOf(2, 0, 2), 56789);
     }

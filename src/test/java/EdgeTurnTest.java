@@ -25,6 +25,18 @@ final class EdgeTurnTest extends Edge {
         due("count(1)", x.count(1), 600);
     }
 
+    /** Promise 6: "n 0 .. 300 TURNS" (all of them by each of the 512 calls that an object is used for) */
+    static void promise06_manyCalls() {
+        TwinThreads x = new TwinThreads();
+        x.feed(0x61742061, 0x3B736574, 0x20302031, 0x3B6A756D, 0x7020613B);
+        due("text(20)", x.text(20), 3);
+        for (int calls = 3; calls < 511; calls++) {
+            due("call " + calls, x.go(300), 300);
+        }
+        due("call 511", x.count(2), 508 * 300 / 17);
+        due("call 512", x.count(1), 508 * 300);
+    }
+
     /** Promise 6: "NONE: no such n" (and no TURN comes) */
     static void promise06_noSuchN() {
         TwinThreads x = loop();
@@ -1397,6 +1409,37 @@ final class EdgeTurnTest extends Edge {
         goOn(y, 6 * 40);
         due("left to MEMORY", y.count(10), 40);
         due("came to OUTPUT", y.count(11), 0);
+    }
+
+    /** Promise 35: "4 ALARMS since the last POINT" (none behind one, all ahead of the first) */
+    static void promise35_sinceThePoint() {
+        TwinThreads x = told("tries 9;span 1;set 0 1;set 0 2;halt;");
+        for (int k = 1; k <= 3; k++) {
+            flip(x, 0, 5, 5);
+            go(x, 3);
+            due("ALARMS since the beginning", x.count(4), k);
+        }
+        go(x, 3);
+        due("behind the POINT", x.count(4), 0);
+        flip(x, 0, 5, 5);
+        go(x, 3);
+        due("ALARMS since the POINT", x.count(4) * 10 + x.count(3), 14);
+        finish(x);
+        due("when DONE", x.count(4) * 10 + x.count(3), 4);
+    }
+
+    /** Promise 35: "17 bits that are STUCK" (each once, of both) */
+    static void promise35_stuck() {
+        TwinThreads x = told("set 0 1;halt;");
+        for (int bit = 0; bit < 32; bit++) {
+            due("STUCK", x.count(17), 2 * bit);
+            stick(x, 0, 7, bit, true);
+            stick(x, 1, 0, bit, false);
+        }
+        stick(x, 0, 7, 31, false);
+        due("STUCK", x.count(17), 64);
+        x.loose();
+        due("none", x.count(17), 0);
     }
 
     /** Promise 35: "12 whether it is DONE, 13 DOWN (1, 0)" */

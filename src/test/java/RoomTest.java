@@ -18,9 +18,9 @@ final class RoomTest {
         for (int sort = 0; sort < SORTS; sort++) {
             TwinThreads warm = new TwinThreads();
             long answers = run(warm, sort);
-            long before = BEAN.getThreadAllocatedBytes(Thread.currentThread().getId());
+            long before = BEAN.getCurrentThreadAllocatedBytes();
             answers += run(new TwinThreads(), sort);
-            long made = BEAN.getThreadAllocatedBytes(Thread.currentThread().getId()) - before;
+            long made = BEAN.getCurrentThreadAllocatedBytes() - before;
             CHECK.due("calls of sort " + sort + " answer", answers != 0, true);
             CHECK.due("bytes beyond the room by calls of sort " + sort, Math.max(0, made - ROOM), 0);
             System.out.println("a run of calls of sort " + sort + " makes " + made + " bytes");
