@@ -27,7 +27,7 @@ import javax.tools.ToolProvider;
  * It is no test of the class and not run by .ci/run, since it knows the class's own lines.
  */
 final class Breaks {
-    private static final String[] TESTS = {"EdgeTextTest", "EdgeStepTest", "EdgeTurnTest", "EdgeAskTest"};
+    private static final String[] TESTS = {"EdgeTextTest", "EdgeStepTest", "EdgeTurnTest", "EdgeAskTest", "OrdinaryTest"};
     private static final Pattern BREAK = Pattern.compile("== (\\w+)\n(.*?)\n-- is broken so:\n(.*?)\n(?===|\\z)", Pattern.DOTALL);
 
     public static void main(String[] args) throws Exception {
